@@ -188,7 +188,7 @@ public final class WallFractions {
         if (registers[a].negative) {
             throw new IllegalStateException("a is below 0");
         }
-        reckoner.wholeNumber(sharing.shareOf(registers[a].above, k));
+        reckoner.putOut(sharing.shareOf(registers[a].above, k), 0, false);
         keep(r);
     }
 
@@ -687,12 +687,6 @@ public final class WallFractions {
             out.negative = above != 0 && (above < 0) != (below < 0);
         }
 
-        void wholeNumber(Whole number) {
-            out.above.copyFrom(number);
-            out.below.become(1);
-            out.negative = false;
-        }
-
         void lengthen(Fraction x, int digits) {
             out.copyFrom(x);
             out.above.grow(BASE, digits);
@@ -766,21 +760,22 @@ public final class WallFractions {
             if (goesUp(x, how)) {
                 quotient.grow(1, 1);
             }
-            inDecimals(quotient, decimals, x.negative);
+            putOut(quotient, decimals, x.negative);
+            reduce();
         }
 
-        /** Whether the number without its sign, which the quotient cuts, is rounded up. */
+        /** Whether the number without its sign, which the quotient cuts and the rest tells of, is rounded up. */
         private boolean goesUp(Fraction x, int how) {
-            if (how == CUT || rest.isZero()) {
-                return false;
+            switch (how) {
+                case FLOOR:
+                    return x.negative && !rest.isZero();
+                case ROUNDED:
+                    rest.grow(2, 0);
+                    // A half goes up; with a sign ahead of it that is nearer to 0.
+                    return rest.order(x.below) >= (x.negative ? 1 : 0);
+                default:
+                    return false;
             }
-            if (how == FLOOR) {
-                return x.negative;
-            }
-            rest.grow(2, 0);
-            int half = rest.order(x.below);
-            // A half goes up; with a sign ahead of it that is nearer to 0.
-            return half > 0 || half == 0 && !x.negative;
         }
 
         void extractRoot(Fraction x, int decimals) {
@@ -788,7 +783,8 @@ public final class WallFractions {
             right.becomeProduct(x.above, left);
             divider.split(right, x.below, left, rest);
             squareRoot(left, right);
-            inDecimals(right, decimals, false);
+            putOut(right, decimals, false);
+            reduce();
         }
 
         /** Newton's way from above: the guesses fall until the root, rounded down, is reached. */
@@ -806,11 +802,11 @@ public final class WallFractions {
             }
         }
 
-        private void inDecimals(Whole number, int decimals, boolean negative) {
+        /** The number over so many decimals, not yet in lowest terms. */
+        void putOut(Whole number, int decimals, boolean negative) {
             out.above.copyFrom(number);
             out.below.becomeTenTo(decimals);
             out.negative = negative;
-            reduce();
         }
 
         private void reduce() {

@@ -64,6 +64,15 @@ public final class PromisesTest {
         throwsUp(what, x, (Hand.Deed) call::run, want);
     }
 
+    /** The register is 0 / 1 in every call that could tell a 0 with a sign from one without. */
+    private static void plainZero(String what, WallFractions x, int r) {
+        Hand.due(what + " 0", Hand.read(x, r), "0");
+        Hand.due(what + " 0 has no sign", x.sign(r), 0);
+        Hand.due(what + " 0 as a new 0", x.compare(r, 2) + " " + x.compare(2, r), "0 0");
+        Hand.due(what + " 0 has a root", Hand.told(() -> x.root(12, r, 0)), NOTHING);
+        Hand.due(what + " 0 is shared", Hand.told(() -> x.share(12, r, 0)), NOTHING);
+    }
+
     /** Register 0 is 7 / 2, 1 is -7 / 3, 2 is 0, 3 is 10^180 - 1, 4 is 1 / (10^180 - 1), 5 is -12; weights 3, 1. */
     private static WallFractions filled() {
         WallFractions x = new WallFractions();
@@ -92,12 +101,14 @@ public final class PromisesTest {
 
     private static void set() {
         WallFractions x = new WallFractions();
+        x.weight(0, 1);
         sees("2: lowest terms", x, () -> x.set(0, 6, 4), 0, "3/2");
+        sees("2: 1 over a negative", x, () -> x.set(0, 1, -4), 0, "-1/4");
         sees("2: below is positive", x, () -> x.set(0, 6, -4), 0, "-3/2");
         sees("2: two signs", x, () -> x.set(15, -6, -4), 15, "3/2");
         sees("2: whole", x, () -> x.set(0, -6, 3), 0, "-2");
         sees("2: zero", x, () -> x.set(0, 0, -9), 0, "0");
-        Hand.due("2: zero has no sign", x.sign(0), 0);
+        plainZero("2: zero", x, 0);
         sees("2: zero over the least", x, () -> x.set(0, 0, -Long.MAX_VALUE), 0, "0");
         sees("2: greatest", x, () -> x.set(0, Long.MAX_VALUE, 1), 0, "9223372036854775807");
         sees("2: least", x, () -> x.set(0, -Long.MAX_VALUE, 2), 0, "-9223372036854775807/2");
@@ -163,7 +174,7 @@ public final class PromisesTest {
         sees("4: into itself", x, () -> x.add(0, 0, 1), 0, "7/6");
         x.set(0, 7, 3);
         sees("4: to 0", x, () -> x.add(6, 0, 1), 6, "0");
-        Hand.due("4: 0 has no sign", x.sign(6), 0);
+        plainZero("4:", x, 6);
         x.set(7, 1, 1);
         throwsUp("4: 10^180", x, () -> x.add(6, 3, 7), STATE);
         throwsUp("4: into itself", x, () -> x.add(3, 3, 7), STATE);
@@ -184,7 +195,7 @@ public final class PromisesTest {
         sees("5: 0 less a number", x, () -> x.subtract(6, 2, 0), 6, "-7/2");
         sees("5: 0 less a negative", x, () -> x.subtract(6, 2, 1), 6, "7/3");
         sees("5: itself", x, () -> x.subtract(6, 1, 1), 6, "0");
-        Hand.due("5: 0 has no sign", x.sign(6), 0);
+        plainZero("5:", x, 6);
         sees("5: 0 less 0", x, () -> x.subtract(6, 2, 2), 6, "0");
         sees("5: the longest from itself", x, () -> x.subtract(6, 3, 3), 6, "0");
         sees("5: into itself", x, () -> x.subtract(1, 0, 1), 1, "35/6");
@@ -202,7 +213,9 @@ public final class PromisesTest {
         sees("6: lowest terms", x, () -> x.multiply(6, 0, 5), 6, "-42");
         sees("6: two negatives", x, () -> x.multiply(6, 1, 5), 6, "28");
         sees("6: with 0", x, () -> x.multiply(6, 1, 2), 6, "0");
-        Hand.due("6: 0 has no sign", x.sign(6), 0);
+        plainZero("6:", x, 6);
+        sees("6: 0 with a negative", x, () -> x.multiply(6, 2, 1), 6, "0");
+        plainZero("6: changed over", x, 6);
         sees("6: the longest to 1", x, () -> x.multiply(6, 3, 4), 6, "1");
         sees("6: into itself", x, () -> x.multiply(0, 0, 0), 0, "49/4");
         throwsUp("6: above too long", x, () -> x.multiply(3, 3, 3), STATE);
@@ -218,7 +231,7 @@ public final class PromisesTest {
         sees("7: fractions", x, () -> x.divide(6, 0, 1), 6, "-3/2");
         sees("7: two negatives", x, () -> x.divide(6, 1, 5), 6, "7/36");
         sees("7: 0", x, () -> x.divide(6, 2, 1), 6, "0");
-        Hand.due("7: 0 has no sign", x.sign(6), 0);
+        plainZero("7:", x, 6);
         sees("7: by itself", x, () -> x.divide(6, 3, 3), 6, "1");
         sees("7: into itself", x, () -> x.divide(1, 0, 1), 1, "-3/2");
         x.set(7, 1, 1);
@@ -281,6 +294,7 @@ public final class PromisesTest {
 
     private static void binomial() {
         WallFractions x = filled();
+        x.set(1, -7, 3);
         sees("9: 5 over 2", x, () -> x.binomial(1, 5, 2), 1, "10");
         sees("9: 0 over 0", x, () -> x.binomial(6, 0, 0), 6, "1");
         sees("9: n over 0", x, () -> x.binomial(6, 500, 0), 6, "1");
@@ -288,6 +302,7 @@ public final class PromisesTest {
         sees("9: n over 1", x, () -> x.binomial(6, 500, 1), 6, "500");
         sees("9: n over n - 1", x, () -> x.binomial(6, 499, 498), 6, "499");
         sees("9: 61 over 30", x, () -> x.binomial(6, 61, 30), 6, "232714176627630544");
+        x.set(6, -7, 3);
         sees("9: below 0", x, () -> x.binomial(6, 5, -1), 6, "0");
         sees("9: above n", x, () -> x.binomial(6, 5, 6), 6, "0");
         sees("9: least k", x, () -> x.binomial(6, 500, Integer.MIN_VALUE), 6, "0");
@@ -350,7 +365,7 @@ public final class PromisesTest {
         sees("10: into itself", x, () -> x.round(6, 6, 3, 0), 6, "1999/1000");
         x.subtract(7, 2, 4);
         rounds(x, 7, 0, "-1", "0", "0");
-        Hand.due("10: 0 has no sign", x.sign(13), 0);
+        plainZero("10:", x, 13);
     }
 
     private static String thirds() {
@@ -599,6 +614,7 @@ public final class PromisesTest {
         BigInteger hundred = BigInteger.valueOf(100);
         Hand.due("19: thirds", shares(hundred, 1, 1, 1), "34 33 33 0 0 0 0 0 0 0");
         Hand.due("19: the last alone", shares(hundred, 0, 0, 0, 0, 0, 0, 0, 0, 0, 7), "0 0 0 0 0 0 0 0 0 100");
+        Hand.due("19: one of weight 1", shares(hundred, 0, 1), "0 100 0 0 0 0 0 0 0 0");
         Hand.due("19: by the greatest rest", shares(BigInteger.TEN, 1, 3, 3), "2 4 4 0 0 0 0 0 0 0");
         Hand.due("19: rest ahead of number", shares(BigInteger.TEN, 5, 1, 1), "7 2 1 0 0 0 0 0 0 0");
         Hand.due("19: later with greater rest", shares(BigInteger.valueOf(5), 1, 2), "2 3 0 0 0 0 0 0 0 0");
@@ -610,6 +626,7 @@ public final class PromisesTest {
         Hand.due("19: of 0", shares(BigInteger.ZERO, 1, 2, 3), "0 0 0 0 0 0 0 0 0 0");
         WallFractions x = filled();
         x.set(6, 11, 1);
+        x.set(7, -1, 3);
         sees("19: into itself", x, () -> x.share(6, 6, 0), 6, "8");
     }
 
