@@ -107,18 +107,35 @@ public final class FaceTest {
 
     /** All rows are made in the constructor: the dearest calls make no object at all. */
     private static void rows() {
-        WallFractions x = new WallFractions();
-        Hand.load(x, 0, 15, Hand.BOUND.subtract(java.math.BigInteger.ONE), java.math.BigInteger.TEN.pow(170));
-        Hand.load(x, 1, 15, java.math.BigInteger.TEN.pow(80), java.math.BigInteger.valueOf(77).pow(40));
-        dearest(x);
+        WallFractions[] objects = new WallFractions[30];
+        for (int i = 0; i < objects.length; i++) {
+            objects[i] = loaded();
+            dearest(objects[i]);
+        }
         com.sun.management.ThreadMXBean threads =
             (com.sun.management.ThreadMXBean) java.lang.management.ManagementFactory.getThreadMXBean();
         long before = threads.getCurrentThreadAllocatedBytes();
-        for (int i = 0; i < 500; i++) {
-            dearest(x);
+        for (WallFractions x : objects) {
+            for (int i = 0; i < 25; i++) {
+                dearest(x);
+            }
         }
         long bytes = threads.getCurrentThreadAllocatedBytes() - before;
-        Hand.due("500 rounds of calls make few objects: " + bytes + " bytes", bytes < 50_000, true);
+        Hand.due("750 rounds of calls make few objects: " + bytes + " bytes", bytes < 50_000, true);
+    }
+
+    /** Register 0 is (10^180 - 1) / 7^200, and 1 is 10^80 / 77^40. */
+    private static WallFractions loaded() {
+        WallFractions x = new WallFractions();
+        for (int i = 0; i < 20; i++) {
+            x.more(0, 999_999_999);
+        }
+        x.set(1, 7, 1);
+        x.power(1, 1, 200);
+        x.divide(0, 0, 1);
+        x.set(1, 100, 77);
+        x.power(1, 1, 40);
+        return x;
     }
 
     private static void dearest(WallFractions x) {

@@ -6,11 +6,12 @@ public final class RandomRunsTest {
     private static final BigInteger ONE = BigInteger.ONE;
     private static final BigInteger ZERO = BigInteger.ZERO;
     private static final BigInteger TWO = BigInteger.TWO;
-    private static final int RUNS = 150;
-    private static final int CALLS = 512;
+    private static final int RUNS = 1500;
+    /** As many calls as the longest try makes, and the last look at all registers. */
+    private static final int LAST_CALLS = 140;
 
     private final Random dice;
-    private final WallFractions x = new WallFractions();
+    private final Told x = new Told();
     private final BigInteger[] above = new BigInteger[16];
     private final BigInteger[] below = new BigInteger[16];
     private final int[] weights = new int[10];
@@ -26,9 +27,10 @@ public final class RandomRunsTest {
     public static void main(String[] args) {
         for (int run = 0; run < RUNS; run++) {
             RandomRunsTest test = new RandomRunsTest(run);
-            for (int i = 0; i < CALLS; i++) {
-                test.call("run " + run + " call " + i + ": ");
+            for (int i = 0; test.x.callsLeft() >= LAST_CALLS; i++) {
+                test.call("run " + run + " try " + i + ": ");
             }
+            test.look("run " + run + " at its end: ");
         }
         Hand.end();
     }
@@ -100,18 +102,33 @@ public final class RandomRunsTest {
             b = b.negate();
         }
         if (a.abs().compareTo(Hand.BOUND) >= 0 || b.compareTo(Hand.BOUND) >= 0) {
-            return "throws.IllegalStateException";
+            return Hand.STATE;
         }
         above[r] = a;
         below[r] = b;
-        return "nothing";
+        return Hand.NOTHING;
     }
 
     private void see(String what, int r, String got, String want) {
         Hand.due(what, got, want);
         if (isRegister(r)) {
-            String held = above[r] + (below[r].equals(ONE) ? "" : "/" + below[r]);
-            Hand.due(what + " register " + r, Hand.read(x, r), held);
+            Hand.due(what + " register " + r + " as " + held(r), x.print(r), Told.printOf(held(r)));
+        }
+    }
+
+    private String held(int r) {
+        return Hand.fraction(above[r], below[r]);
+    }
+
+    /** At all registers, and digit by digit at as many as there are calls left for. */
+    private void look(String where) {
+        for (int r = 0; r < 16; r++) {
+            Hand.due(where + "register " + r + " as " + held(r), x.print(r), Told.printOf(held(r)));
+        }
+        for (int r = 0; r < 16; r++) {
+            if (held(r).length() + 5 <= x.callsLeft()) {
+                Hand.due(where + "register " + r, x.read(r), held(r));
+            }
         }
     }
 
@@ -121,13 +138,13 @@ public final class RandomRunsTest {
         long bottom = number();
         String want;
         if (!isRegister(r) || top == Long.MIN_VALUE || bottom == Long.MIN_VALUE) {
-            want = "throws.IllegalArgumentException";
+            want = Hand.REFUSED;
         } else if (bottom == 0) {
-            want = "throws.ArithmeticException";
+            want = Hand.ARITHMETIC;
         } else {
             want = due(r, BigInteger.valueOf(top), BigInteger.valueOf(bottom));
         }
-        see(where + "set " + r + " " + top + " " + bottom, r, Hand.told(() -> x.set(r, top, bottom)), want);
+        see(where + "set " + r + " " + top + " " + bottom, r, x.set(r, top, bottom), want);
     }
 
     private void tryMore(String where) {
@@ -137,14 +154,14 @@ public final class RandomRunsTest {
             int digits = dice.nextInt(4) == 0 ? within(0, 5) : within(0, 999_999_999);
             String want;
             if (!isRegister(r) || digits < 0 || digits > 999_999_999) {
-                want = "throws.IllegalArgumentException";
+                want = Hand.REFUSED;
             } else if (!below[r].equals(ONE)) {
-                want = "throws.IllegalStateException";
+                want = Hand.STATE;
             } else {
                 BigInteger extra = BigInteger.valueOf(above[r].signum() < 0 ? -digits : digits);
                 want = due(r, above[r].multiply(Hand.CHUNK).add(extra), ONE);
             }
-            see(where + "more " + r + " " + digits, r, Hand.told(() -> x.more(r, digits)), want);
+            see(where + "more " + r + " " + digits, r, x.more(r, digits), want);
         }
     }
 
@@ -153,15 +170,15 @@ public final class RandomRunsTest {
         int a = register();
         int b = register();
         int kind = dice.nextInt(4);
-        String want = "throws.IllegalArgumentException";
+        String want = Hand.REFUSED;
         if (isRegister(r) && isRegister(a) && isRegister(b)) {
             want = duePair(r, a, b, kind);
         }
         String got = switch (kind) {
-            case 0 -> Hand.told(() -> x.add(r, a, b));
-            case 1 -> Hand.told(() -> x.subtract(r, a, b));
-            case 2 -> Hand.told(() -> x.multiply(r, a, b));
-            default -> Hand.told(() -> x.divide(r, a, b));
+            case 0 -> x.add(r, a, b);
+            case 1 -> x.subtract(r, a, b);
+            case 2 -> x.multiply(r, a, b);
+            default -> x.divide(r, a, b);
         };
         see(where + "pair " + kind + " " + r + " " + a + " " + b, r, got, want);
     }
@@ -178,7 +195,7 @@ public final class RandomRunsTest {
             case 2:
                 return due(r, above[a].multiply(above[b]), bottom);
             default:
-                return above[b].signum() == 0 ? "throws.ArithmeticException" : due(r, left, right);
+                return above[b].signum() == 0 ? Hand.ARITHMETIC : due(r, left, right);
         }
     }
 
@@ -186,18 +203,18 @@ public final class RandomRunsTest {
         int r = register();
         int a = register();
         int n = dice.nextBoolean() ? within(0, 200) : within(0, 8);
-        String want = "throws.IllegalArgumentException";
+        String want = Hand.REFUSED;
         if (isRegister(r) && isRegister(a) && n >= 0 && n <= 200) {
             want = due(r, above[a].pow(n), below[a].pow(n));
         }
-        see(where + "power " + r + " " + a + " " + n, r, Hand.told(() -> x.power(r, a, n)), want);
+        see(where + "power " + r + " " + a + " " + n, r, x.power(r, a, n), want);
     }
 
     private void tryBinomial(String where) {
         int r = register();
         int n = within(0, 500);
         int k = within(0, 500);
-        String want = "throws.IllegalArgumentException";
+        String want = Hand.REFUSED;
         if (isRegister(r) && n >= 0 && n <= 500) {
             BigInteger value = k < 0 || k > n ? ZERO : ONE;
             for (int i = 1; i <= k && i <= n; i++) {
@@ -205,7 +222,7 @@ public final class RandomRunsTest {
             }
             want = due(r, value, ONE);
         }
-        see(where + "binomial " + r + " " + n + " " + k, r, Hand.told(() -> x.binomial(r, n, k)), want);
+        see(where + "binomial " + r + " " + n + " " + k, r, x.binomial(r, n, k), want);
     }
 
     private static BigInteger floor(BigInteger top, BigInteger bottom) {
@@ -218,7 +235,7 @@ public final class RandomRunsTest {
         int a = register();
         int d = within(0, 40);
         int how = within(0, 2);
-        String want = "throws.IllegalArgumentException";
+        String want = Hand.REFUSED;
         if (isRegister(r) && isRegister(a) && d >= 0 && d <= 40 && how >= 0 && how <= 2) {
             BigInteger ten = BigInteger.TEN.pow(d);
             BigInteger top = above[a].multiply(ten);
@@ -229,33 +246,33 @@ public final class RandomRunsTest {
             };
             want = due(r, value, ten);
         }
-        see(where + "round " + r + " " + a + " " + d + " " + how, r, Hand.told(() -> x.round(r, a, d, how)), want);
+        see(where + "round " + r + " " + a + " " + d + " " + how, r, x.round(r, a, d, how), want);
     }
 
     private void tryRoot(String where) {
         int r = register();
         int a = register();
         int d = within(0, 40);
-        String want = "throws.IllegalArgumentException";
+        String want = Hand.REFUSED;
         if (isRegister(r) && isRegister(a) && d >= 0 && d <= 40) {
             if (above[a].signum() < 0) {
-                want = "throws.ArithmeticException";
+                want = Hand.ARITHMETIC;
             } else {
                 BigInteger ten = BigInteger.TEN.pow(d);
                 want = due(r, above[a].multiply(ten).multiply(ten).divide(below[a]).sqrt(), ten);
             }
         }
-        see(where + "root " + r + " " + a + " " + d, r, Hand.told(() -> x.root(r, a, d)), want);
+        see(where + "root " + r + " " + a + " " + d, r, x.root(r, a, d), want);
     }
 
     private void tryCompare(String where) {
         int a = register();
         int b = dice.nextInt(8) == 0 ? a : register();
-        String want = "throws.IllegalArgumentException";
+        String want = Hand.REFUSED;
         if (isRegister(a) && isRegister(b)) {
             want = "" + above[a].multiply(below[b]).compareTo(above[b].multiply(below[a]));
         }
-        Hand.due(where + "compare " + a + " " + b, Hand.told(() -> x.compare(a, b)), want);
+        Hand.due(where + "compare " + a + " " + b, x.compare(a, b), want);
     }
 
     private void tryParts(String where) {
@@ -263,51 +280,51 @@ public final class RandomRunsTest {
         int part = within(0, 1);
         int m = dice.nextBoolean() ? within(1, 1_000_000_000) : within(1, 20);
         int k = within(0, 180);
-        String refused = "throws.IllegalArgumentException";
+        String refused = Hand.REFUSED;
         boolean good = isRegister(a) && (part == 0 || part == 1);
         BigInteger number = !good ? ZERO : part == 0 ? above[a].abs() : below[a];
         String text = number.toString();
         boolean goodM = good && m >= 1 && m <= 1_000_000_000;
         String wantModulo = goodM ? "" + number.mod(BigInteger.valueOf(m)) : refused;
-        String wantDigit = k < 0 || k >= text.length() ? "throws.IndexOutOfBoundsException"
+        String wantDigit = k < 0 || k >= text.length() ? Hand.INDEX
             : "" + text.charAt(text.length() - 1 - k);
         String what = where + "parts " + a + " " + part + " " + m + " " + k;
-        Hand.due(what + " modulo", Hand.told(() -> x.modulo(a, part, m)), wantModulo);
-        Hand.due(what + " digits", Hand.told(() -> x.digits(a, part)), good ? "" + text.length() : refused);
-        Hand.due(what + " digit", Hand.told(() -> x.digit(a, part, k)), good ? wantDigit : refused);
-        Hand.due(what + " sign", Hand.told(() -> x.sign(a)), isRegister(a) ? "" + above[a].signum() : refused);
+        Hand.due(what + " modulo", x.modulo(a, part, m), wantModulo);
+        Hand.due(what + " digits", x.digits(a, part), good ? "" + text.length() : refused);
+        Hand.due(what + " digit", x.digit(a, part, k), good ? wantDigit : refused);
+        Hand.due(what + " sign", x.sign(a), isRegister(a) ? "" + above[a].signum() : refused);
     }
 
     private void tryBehind(String where) {
         int a = register();
         int k = within(1, 300);
-        String want = "throws.IllegalArgumentException";
+        String want = Hand.REFUSED;
         if (isRegister(a) && k >= 1 && k <= 300) {
             want = "" + above[a].abs().multiply(BigInteger.TEN.pow(k)).divide(below[a]).mod(BigInteger.TEN);
         }
-        Hand.due(where + "behind " + a + " " + k, Hand.told(() -> x.behind(a, k)), want);
+        Hand.due(where + "behind " + a + " " + k, x.behind(a, k), want);
     }
 
     private void tryWeight(String where) {
         int k = within(0, 9);
         int w = dice.nextBoolean() ? within(0, 4) : within(0, 1_000_000_000);
-        String want = "throws.IllegalArgumentException";
+        String want = Hand.REFUSED;
         if (k >= 0 && k <= 9 && w >= 0 && w <= 1_000_000_000) {
             want = "" + weights[k];
             weights[k] = w;
         }
-        Hand.due(where + "weight " + k + " " + w, Hand.told(() -> x.weight(k, w)), want);
+        Hand.due(where + "weight " + k + " " + w, x.weight(k, w), want);
     }
 
     private void tryShare(String where) {
         int r = register();
         int a = register();
         int k = within(0, 9);
-        String want = "throws.IllegalArgumentException";
+        String want = Hand.REFUSED;
         if (isRegister(r) && isRegister(a) && k >= 0 && k <= 9) {
             want = dueShare(r, a, k);
         }
-        see(where + "share " + r + " " + a + " " + k, r, Hand.told(() -> x.share(r, a, k)), want);
+        see(where + "share " + r + " " + a + " " + k, r, x.share(r, a, k), want);
     }
 
     private String dueShare(int r, int a, int k) {
@@ -316,10 +333,10 @@ public final class RandomRunsTest {
             all = all.add(BigInteger.valueOf(w));
         }
         if (all.signum() == 0) {
-            return "throws.ArithmeticException";
+            return Hand.ARITHMETIC;
         }
         if (above[a].signum() < 0 || !below[a].equals(ONE)) {
-            return "throws.IllegalStateException";
+            return Hand.STATE;
         }
         BigInteger[] shares = new BigInteger[10];
         BigInteger[] rests = new BigInteger[10];
