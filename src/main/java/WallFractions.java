@@ -74,18 +74,21 @@ public final class WallFractions {
     public void add(int r, int a, int b) throws IllegalArgumentException, IllegalStateException {
         requireRegisters(r, a, b);
         reckoner.total(registers[a], registers[b], registers[b].negative);
+        reckoner.reduce();
         keep(r);
     }
 
     public void subtract(int r, int a, int b) throws IllegalArgumentException, IllegalStateException {
         requireRegisters(r, a, b);
         reckoner.total(registers[a], registers[b], !registers[b].negative);
+        reckoner.reduce();
         keep(r);
     }
 
     public void multiply(int r, int a, int b) throws IllegalArgumentException, IllegalStateException {
         requireRegisters(r, a, b);
         reckoner.product(registers[a], registers[b].above, registers[b].below, registers[b].negative);
+        reckoner.reduce();
         keep(r);
     }
 
@@ -96,6 +99,7 @@ public final class WallFractions {
             throw new ArithmeticException("b is 0");
         }
         reckoner.product(registers[a], registers[b].below, registers[b].above, registers[b].negative);
+        reckoner.reduce();
         keep(r);
     }
 
@@ -120,6 +124,7 @@ public final class WallFractions {
         requireWithin(decimals, 0, MOST_DECIMALS);
         requireWithin(how, FLOOR, CUT);
         reckoner.shorten(registers[a], decimals, how);
+        reckoner.reduce();
         keep(r);
     }
 
@@ -132,8 +137,11 @@ public final class WallFractions {
             throw new ArithmeticException("a is below 0");
         }
         reckoner.extractRoot(registers[a], decimals);
+        reckoner.reduce();
         keep(r);
     }
+
+    // ---- what is told
 
     public int compare(int a, int b) throws IllegalArgumentException {
         requireRegister(a);
@@ -170,6 +178,8 @@ public final class WallFractions {
         return (int) number.restBy(m);
     }
 
+    // ---- shares
+
     public int weight(int k, int w) throws IllegalArgumentException {
         requireWithin(k, 0, WEIGHTS - 1);
         requireWithin(w, 0, MOST_WEIGHT);
@@ -191,6 +201,8 @@ public final class WallFractions {
         reckoner.putOut(sharing.shareOf(registers[a].above, k), 0, false);
         keep(r);
     }
+
+    // ---- inside
 
     private static void requireWithin(long number, long least, long most) {
         if (number < least || number > most) {
@@ -242,6 +254,13 @@ public final class WallFractions {
         private static void requireRoom(int wanted) {
             if (wanted > ROOM) {
                 throw new IllegalStateException("too long a number");
+            }
+        }
+
+        /** No call gets here with such a divisor; one that did must not divide by 0. */
+        private static void requireDivisor(long divisor) {
+            if (divisor < 1) {
+                throw new IllegalStateException("no divisor");
             }
         }
 
@@ -368,6 +387,7 @@ public final class WallFractions {
 
         /** Becomes x divided by 1 .. BASE, rounded down, and answers the rest; x may be this one. */
         long becomeQuotient(Whole x, long divisor) {
+            requireDivisor(divisor);
             long rest = 0;
             int length = x.size;
             for (int i = length - 1; i >= 0; i--) {
@@ -380,6 +400,7 @@ public final class WallFractions {
         }
 
         long restBy(long divisor) {
+            requireDivisor(divisor);
             long rest = 0;
             for (int i = size - 1; i >= 0; i--) {
                 rest = (rest * BASE + limbs[i]) % divisor;
@@ -469,6 +490,7 @@ public final class WallFractions {
             long scale = BASE / (divisor.limbs[length - 1] + 1);
             lay(dividend, scale, left);
             lay(divisor, scale, by);
+            Whole.requireDivisor(by[length - 1]);
             for (int place = highest; place >= 0; place--) {
                 quotient.limbs[place] = takeOff(place, length);
             }
@@ -654,7 +676,7 @@ public final class WallFractions {
         }
     }
 
-    /** Reckons with fractions; what comes of it stands in out, which need not fit. */
+    /** Reckons with fractions; what comes of it stands in out, which need not fit, nor be reduced yet. */
     private static final class Reckoner {
         private final Divider divider;
         private final Measure measure;
@@ -682,6 +704,7 @@ public final class WallFractions {
 
         void ratio(long above, long below) {
             long common = Measure.ofShort(Math.abs(above), Math.abs(below));
+            Whole.requireDivisor(common);
             out.above.become(Math.abs(above) / common);
             out.below.become(Math.abs(below) / common);
             out.negative = above != 0 && (above < 0) != (below < 0);
@@ -707,7 +730,6 @@ public final class WallFractions {
                 out.above.becomeDifference(right, left);
                 out.negative = negativeY;
             }
-            reduce();
         }
 
         /** x times above / below with the sign that is told: a product, or a quotient if they are changed over. */
@@ -715,7 +737,6 @@ public final class WallFractions {
             out.above.becomeProduct(x.above, above);
             out.below.becomeProduct(x.below, below);
             out.negative = x.negative != negative;
-            reduce();
         }
 
         /**
@@ -761,7 +782,6 @@ public final class WallFractions {
                 quotient.grow(1, 1);
             }
             putOut(quotient, decimals, x.negative);
-            reduce();
         }
 
         /** Whether the number without its sign, which the quotient cuts and the rest tells of, is rounded up. */
@@ -784,7 +804,6 @@ public final class WallFractions {
             divider.split(right, x.below, left, rest);
             squareRoot(left, right);
             putOut(right, decimals, false);
-            reduce();
         }
 
         /** Newton's way from above: the guesses fall until the root, rounded down, is reached. */
@@ -802,14 +821,15 @@ public final class WallFractions {
             }
         }
 
-        /** The number over so many decimals, not yet in lowest terms. */
+        /** The number over so many decimals. */
         void putOut(Whole number, int decimals, boolean negative) {
             out.above.copyFrom(number);
             out.below.becomeTenTo(decimals);
             out.negative = negative;
         }
 
-        private void reduce() {
+        /** Brings what came of a reckoning to lowest terms; below is not 0. */
+        void reduce() {
             Whole common = measure.of(out.above, out.below);
             if (!common.isOne()) {
                 divider.split(out.above, common, out.above, rest);

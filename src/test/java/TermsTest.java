@@ -1,5 +1,12 @@
 import java.io.IOException;
+import java.io.UncheckedIOException;
 import java.math.BigInteger;
+import java.nio.file.Files;
+import java.nio.file.Path;
+import java.util.List;
+import java.util.StringJoiner;
+import java.util.regex.Matcher;
+import java.util.regex.Pattern;
 
 /** What the document says ahead of the promises: each sentence has its own test. */
 public final class TermsTest extends Scene {
@@ -18,9 +25,9 @@ public final class TermsTest extends Scene {
 
     private static void use() throws IOException {
         Sentences said = new Sentences("What it is");
-        said.crossOut("Exact fractions of any length up to 180 digits: sums, products, quotients, powers, order,"
+        said.hold("Exact fractions of any length up to 180 digits: sums, products, quotients, powers, order,"
             + " roundings, digits behind the point, roots in enclosures, binomials, and shares of cents whose rests"
-            + " go by rank.");
+            + " go by rank.", TermsTest::everyLength);
         said.hold("An object is used for at most 512 calls after it has been made; what later calls answer is free.",
             TermsTest::goodForAllCalls);
         said.end();
@@ -69,10 +76,98 @@ public final class TermsTest extends Scene {
         terms.hold("IllegalStateException: what comes of it does not fit.", TermsTest::doesNotFit);
         terms.hold("Of several exceptions the one named first is thrown;", TermsTest::namedFirst);
         terms.hold("a call that throws changes nothing.", TermsTest::throwsAndGoesOn);
-        terms.crossOut("Ahead of the calls `compare`, `sign`, `digits`, `digit`, `behind`, `modulo` the interface"
-            + " says: ---- what is told.");
-        terms.crossOut("Ahead of the calls `weight`, `share` the interface says: ---- shares.");
+        terms.hold("Ahead of the calls `compare`, `sign`, `digits`, `digit`, `behind`, `modulo` the interface says:"
+            + " ---- what is told.", () -> saidAhead("---- what is told", "compare, sign, digits, digit, behind, modulo"));
+        terms.hold("Ahead of the calls `weight`, `share` the interface says: ---- shares.",
+            () -> saidAhead("---- shares", "weight, share"));
         terms.end();
+    }
+
+    /** Above and below have as many digits as each other, from 1 to 180. */
+    private static void everyLength() {
+        for (int length = 1; length <= 180; length++) {
+            BigInteger a = new BigInteger("7654321890".repeat(18).substring(0, length));
+            BigInteger b = new BigInteger("5908172634".repeat(18).substring(0, length));
+            Told x = new Told();
+            x.load(0, a);
+            x.load(1, b);
+            wholes(x, a, b);
+            Hand.due("the quotient", x.divide(2, 0, 1), Hand.NOTHING);
+            Hand.due("the quotient", x.read(2), Hand.fraction(a, b));
+            x.divide(0, 0, 1);
+            fractions(x, a, b);
+            seen(x, x.binomial(2, 500, length), choose(500, length), BigInteger.ONE);
+        }
+    }
+
+    /** What came of the last call, which is in register 2 if it fits, in few calls. */
+    private static void seen(Told x, String told, BigInteger above, BigInteger below) {
+        String call = x.last() + " on " + above + " / " + below;
+        String want = Hand.fraction(above, below);
+        boolean fits = !want.equals(Hand.STATE);
+        Hand.due(call, told, fits ? Hand.NOTHING : want);
+        if (fits) {
+            Hand.due(call, x.print(2), Told.printOf(want));
+        }
+    }
+
+    private static void wholes(Told x, BigInteger a, BigInteger b) {
+        seen(x, x.add(2, 0, 1), a.add(b), BigInteger.ONE);
+        seen(x, x.subtract(2, 1, 0), b.subtract(a), BigInteger.ONE);
+        seen(x, x.multiply(2, 0, 1), a.multiply(b), BigInteger.ONE);
+        seen(x, x.power(2, 1, 3), b.pow(3), BigInteger.ONE);
+        Hand.due("the order", x.compare(0, 1), "" + a.compareTo(b));
+        x.weight(7, 1);
+        x.weight(8, 1);
+        x.weight(9, 1);
+        seen(x, x.share(2, 0, 8), a.add(BigInteger.ONE).divide(big(3)), BigInteger.ONE);
+    }
+
+    private static void fractions(Told x, BigInteger a, BigInteger b) {
+        BigInteger ten = Hand.ten(40);
+        seen(x, x.round(2, 0, 40, 0), a.multiply(ten).divide(b), ten);
+        for (int k = 1; k <= 300; k += 23) {
+            String want = a.multiply(Hand.ten(k)).divide(b).mod(BigInteger.TEN).toString();
+            Hand.due("digit " + k + " behind the point", x.behind(0, k), want);
+        }
+        enclosed(x, 0, 40);
+        enclosed(x, 1, 0);
+    }
+
+    /** The square of the root is not above the fraction, and that of the next multiple of 10^-d is. */
+    private static void enclosed(Told x, int a, int d) {
+        x.set(4, 1, 10);
+        Hand.due("10^-d", x.power(4, 4, d), Hand.NOTHING);
+        Hand.due("the root", x.root(3, a, d), Hand.NOTHING);
+        Hand.due("the next multiple", x.add(4, 3, 4), Hand.NOTHING);
+        Hand.due("the root's square", x.multiply(3, 3, 3), Hand.NOTHING);
+        Hand.due("the next one's square", x.multiply(4, 4, 4), Hand.NOTHING);
+        Hand.due("the root's square is above", x.compare(3, a).equals("1"), false);
+        Hand.due("the next one's square against it", x.compare(4, a), "1");
+    }
+
+    /** In the class, these calls and no others stand behind a comment of these words. */
+    private static void saidAhead(String words, String calls) {
+        StringJoiner under = new StringJoiner(", ");
+        String said = "";
+        for (String line : source()) {
+            if (line.startsWith("    // ")) {
+                said = line.substring("    // ".length());
+            }
+            Matcher call = Pattern.compile("    public \\w+ (\\w+)\\(.*").matcher(line);
+            if (call.matches() && said.equals(words)) {
+                under.add(call.group(1));
+            }
+        }
+        Hand.due("the calls behind " + words, under.toString(), calls);
+    }
+
+    private static List<String> source() {
+        try {
+            return Files.readAllLines(Path.of("src/main/java/WallFractions.java"));
+        } catch (IOException e) {
+            throw new UncheckedIOException(e);
+        }
     }
 
     /** Each number is 3 times the one before and 1 more, so that an answer too few shows. */

@@ -30,7 +30,7 @@ final class Told {
         try {
             return String.valueOf(answer.getAsInt());
         } catch (RuntimeException e) {
-            return "throws." + e.getClass().getSimpleName();
+            return thrown(e);
         }
     }
 
@@ -40,8 +40,13 @@ final class Told {
             deed.run();
             return Hand.NOTHING;
         } catch (RuntimeException e) {
-            return "throws." + e.getClass().getSimpleName();
+            return thrown(e);
         }
+    }
+
+    /** Of the exceptions that a call may throw, the machine throws one by itself, with these words. */
+    private static String thrown(RuntimeException e) {
+        return "throws." + e.getClass().getSimpleName() + ("/ by zero".equals(e.getMessage()) ? " by itself" : "");
     }
 
     private void count(String call) {
