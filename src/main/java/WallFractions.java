@@ -486,6 +486,7 @@ public final class WallFractions {
         private void splitLong(Whole dividend, Whole divisor, Whole quotient, Whole rest) {
             int length = divisor.size;
             int highest = dividend.size - length;
+            Whole.requireDivisor(divisor.limbs[length - 1]);
             // With a top limb of half of BASE or more, a guessed limb is at most two too great.
             long scale = BASE / (divisor.limbs[length - 1] + 1);
             lay(dividend, scale, left);
